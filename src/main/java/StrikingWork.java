@@ -246,7 +246,7 @@ public final class StrikingWork {
   // ---- state
 
   public int undo() {
-    if (savedCount == 0) {
+    if (savedCount <= 0) {
       return refuse(NOTHING_SAVED);
     }
     savedCount--;
@@ -290,7 +290,7 @@ public final class StrikingWork {
   }
 
   private void save() {
-    if (savedCount == SAVED_SIZE) {
+    if (savedCount >= SAVED_SIZE) {
       dropOldestSaved();
     }
     saved[savedCount].copyFrom(now);
@@ -312,6 +312,7 @@ public final class StrikingWork {
     if (now.blocksAt(now.minute)) {
       return 0;
     }
+    // A silence that does not block the trains lifts the hammers.
     boolean lifted = now.hushesAt(now.minute);
     int heard = release(now.quarters, now.quarters.dueAt(now.minute), lifted);
     if (now.hours.isReleasedAt(now.minute)) {

@@ -608,6 +608,10 @@ public final class PromisesTest {
     w.run(60);
     DUE.is("18 missed(0)", w.missed(0), hours + 1);
     DUE.is("18 missed(1)", w.missed(1), quarters + 4);
+    w.undo();
+    DUE.is("18 missed(0) after undo()", w.missed(0), hours);
+    DUE.is("18 missed(1) after undo()", w.missed(1), quarters);
+    w.run(60);
     w.trip(0);
     DUE.is("18 a trip is no missed release", w.missed(0), hours + 1);
     w.setMechanism(0, 0);
