@@ -1,11 +1,10 @@
-import java.util.Arrays;
 import java.util.function.ToIntFunction;
 
 /** Each promise of the document by its number: ordinary inputs, edges, wrong inputs. */
 public final class PromisesTest {
   private static final Due DUE = new Due();
-  private static final int[] NO_TRAINS = {-1, 2, 3, Integer.MIN_VALUE, Integer.MAX_VALUE};
-  private static final int[] NO_MINUTES = {-1, 1440, Integer.MIN_VALUE, Integer.MAX_VALUE};
+  private static final int[] NO_TRAINS = Works.NO_TRAINS;
+  private static final int[] NO_MINUTES = Works.NO_MINUTES;
 
   public static void main(String[] args) {
     p1NewObject();
@@ -43,66 +42,17 @@ public final class PromisesTest {
 
   // ---- helpers
 
-  /** All that can be asked without an error, but for the error counters and the digest. */
-  private static int[] values(StrikingWork w) {
-    int[] v = new int[64];
-    int n = 0;
-    v[n++] = w.minute();
-    for (int t = 0; t < 2; t++) {
-      v[n++] = w.position(t);
-      v[n++] = w.weight(t);
-      v[n++] = w.sounded(t);
-      v[n++] = w.missed(t);
-      v[n++] = w.nextDue(t);
-      v[n++] = w.lag(t);
-    }
-    for (int i = 0; i < 7; i++) {
-      v[n++] = w.strikeMinute(i);
-      v[n++] = w.strikeTrain(i);
-      v[n++] = w.strikeBlows(i);
-    }
-    for (int m = 0; m < 1440; m += 120) {
-      v[n++] = w.isSilent(m);
-    }
-    return v;
-  }
-
-  /** The call answers the code, counts it once, and changes nothing else. */
-  private static void refused(String name, StrikingWork w, int code, ToIntFunction<StrikingWork> call) {
-    int[] before = values(w);
-    int[] errors = {w.errorCount(-2), w.errorCount(-3), w.errorCount(-4)};
-    DUE.is(name, call.applyAsInt(w), code);
-    errors[-2 - code]++;
-    for (int c = -2; c >= -4; c--) {
-      DUE.is(name + ", then errorCount(" + c + ")", w.errorCount(c), errors[-2 - c]);
-    }
-    if (!Arrays.equals(before, values(w))) {
-      DUE.fault(name + " changed the state");
-    }
+  private static void refused(
+      String name, StrikingWork w, int code, ToIntFunction<StrikingWork> call) {
+    Works.refused(DUE, name, w, code, call);
   }
 
   private static void outOfRange(String name, ToIntFunction<StrikingWork> call) {
-    StrikingWork w = new StrikingWork();
-    refused(name + " on a new work", w, -2, call);
-    DUE.is(name + " saved nothing: undo()", w.undo(), -4);
-    w = used();
-    refused(name + " on a used work", w, -2, call);
-    DUE.is(name + " saved nothing on a used work: undo()", w.undo(), 2);
+    Works.outOfRange(DUE, name, call);
   }
 
-  /** A work with three saved states and something in every field. */
-  private static StrikingWork used() {
-    StrikingWork w = new StrikingWork();
-    w.setSilence(2, 30, 50);
-    w.run(130);
-    w.trip(1);
-    return w;
-  }
-
-  private static void strike(String name, StrikingWork w, int index, int minute, int train, int blows) {
-    DUE.is(name + ": strikeMinute(" + index + ")", w.strikeMinute(index), minute);
-    DUE.is(name + ": strikeTrain(" + index + ")", w.strikeTrain(index), train);
-    DUE.is(name + ": strikeBlows(" + index + ")", w.strikeBlows(index), blows);
+  private static void strike(String name, StrikingWork w, int index, int... entry) {
+    Works.strike(DUE, name, w, index, entry);
   }
 
   // ---- the promises
@@ -117,7 +67,7 @@ public final class PromisesTest {
       DUE.is("1 missed", w.missed(t), 0);
     }
     for (int m = 0; m < 1440; m++) {
-      DUE.is("1 isSilent", w.isSilent(m), 0);
+      DUE.is("1 isSilent(" + m + ")", new StrikingWork().isSilent(m), 0);
     }
     DUE.is("1 strikeMinute(0)", w.strikeMinute(0), -1);
     for (int code = -4; code <= -2; code++) {
@@ -286,19 +236,8 @@ public final class PromisesTest {
     DUE.is("6 a silence of no length", empty.run(15), 1);
   }
 
-  /** Runs both weights down; racks leave nothing, since 1 blow is due again and again. */
-  private static StrikingWork spent() {
-    StrikingWork w = new StrikingWork();
-    w.setMechanism(0, 2);
-    w.setMechanism(1, 2);
-    for (int i = 0; i < 16; i++) {
-      w.run(1440);
-    }
-    return w;
-  }
-
   private static void p6RunWithoutWeight() {
-    StrikingWork w = spent();
+    StrikingWork w = Works.spent();
     DUE.is("6 spent: weight(0)", w.weight(0), 0);
     DUE.is("6 spent: weight(1)", w.weight(1), 0);
     int missed = w.missed(1);
@@ -365,7 +304,7 @@ public final class PromisesTest {
   }
 
   private static void p8TripNotPossible() {
-    StrikingWork w = spent();
+    StrikingWork w = Works.spent();
     w.wind(0, 3);
     w.setMechanism(0, 1);
     w.setPosition(0, 4);
@@ -438,7 +377,7 @@ public final class PromisesTest {
     DUE.is("11 quarters: 2, 3 and 4", w.blowsToCorrect(1), 9);
     w.setMechanism(1, 2);
     DUE.is("11 a rack needs none", w.blowsToCorrect(1), 0);
-    StrikingWork light = spent();
+    StrikingWork light = Works.spent();
     light.setMechanism(0, 1);
     light.setPosition(0, 12);
     DUE.is("11 the weight does not matter", light.blowsToCorrect(0), 12);
@@ -495,7 +434,7 @@ public final class PromisesTest {
     w.setSilence(1, 1, 0);
     // Only midnight is not silent: a day for each step of the wheel.
     DUE.is("13 blocked but at midnight", w.minutesToMiss(1), -1);
-    StrikingWork light = spent();
+    StrikingWork light = Works.spent();
     DUE.is("13 spent rack of hours", light.minutesToMiss(0), 60);
     light.setSilence(1, 1, 0);
     DUE.is("13 a blocked release is not missed", light.minutesToMiss(0), 1440);
@@ -520,7 +459,7 @@ public final class PromisesTest {
 
   /** A miss at minute 20000 counts, one at minute 20001 does not. */
   private static void p13MinutesToMissEdges() {
-    StrikingWork w = spent();
+    StrikingWork w = Works.spent();
     w.setHands(0);
     w.setMechanism(1, 1);
     w.setPosition(1, 1);
@@ -601,7 +540,7 @@ public final class PromisesTest {
   }
 
   private static void p18Missed() {
-    StrikingWork w = spent();
+    StrikingWork w = Works.spent();
     // A rack goes on with a small hour where a great one is too dear, so count from here.
     int hours = w.missed(0);
     int quarters = w.missed(1);
@@ -623,35 +562,15 @@ public final class PromisesTest {
     }
   }
 
-  private static void silentMinutes(int mode, int begin, int end) {
-    StrikingWork w = new StrikingWork();
-    w.setSilence(mode, begin, end);
-    boolean silent = false;
-    // Walks the day twice, so that a silence over midnight is entered before it counts.
-    for (int i = 0; i < 2880; i++) {
-      int m = i % 1440;
-      if (m == begin) {
-        silent = mode != 0;
-      }
-      if (m == end) {
-        silent = false;
-      }
-      if (i >= 1440) {
-        DUE.is("19 isSilent(" + m + ") of " + mode + ", " + begin + ", " + end,
-            w.isSilent(m), silent ? 1 : 0);
-      }
-    }
-  }
-
   private static void p19IsSilent() {
     for (int mode = 0; mode < 3; mode++) {
-      silentMinutes(mode, 60, 200);
-      silentMinutes(mode, 1320, 420);
-      silentMinutes(mode, 0, 1439);
-      silentMinutes(mode, 1439, 0);
-      silentMinutes(mode, 1, 0);
-      silentMinutes(mode, 500, 500);
-      silentMinutes(mode, 0, 0);
+      Works.silentMinutes(DUE, mode, 60, 200);
+      Works.silentMinutes(DUE, mode, 1320, 420);
+      Works.silentMinutes(DUE, mode, 0, 1439);
+      Works.silentMinutes(DUE, mode, 1439, 0);
+      Works.silentMinutes(DUE, mode, 1, 0);
+      Works.silentMinutes(DUE, mode, 500, 500);
+      Works.silentMinutes(DUE, mode, 0, 0);
     }
     for (int m : NO_MINUTES) {
       outOfRange("19 isSilent(" + m + ")", x -> x.isSilent(m));
@@ -737,7 +656,7 @@ public final class PromisesTest {
   }
 
   private static void undone(String name, boolean changes, ToIntFunction<StrikingWork> call) {
-    StrikingWork w = used();
+    StrikingWork w = Works.used();
     w.run(500);
     long digest = w.digest();
     call.applyAsInt(w);
